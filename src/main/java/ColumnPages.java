@@ -403,7 +403,7 @@ public final class ColumnPages {
             there[i] = from.there[j];
             numbers[i] = from.numbers[j];
             if (kind == TEXT) {
-                for (int k = 0; k < MOST_LETTERS; k++) {
+                for (int k = 0; k < MOST_LETTERS && k < numbers[i]; k++) {
                     letters[i * MOST_LETTERS + k] = from.letters[j * MOST_LETTERS + k];
                 }
             }
@@ -584,7 +584,7 @@ public final class ColumnPages {
 
         void pushRuns(long[] numbers, int n, int width) {
             int i = 0;
-            while (i < n && i < numbers.length) {
+            for (int run = 0; run < n && i < n && i < numbers.length; run++) {
                 int equal = equalFrom(numbers, i, n);
                 if (equal >= GROUP) {
                     pushVar(2L * equal);
@@ -956,12 +956,11 @@ public final class ColumnPages {
         private void chooseUnlike(Column column) {
             chosenCount = 0;
             for (int i = 0; i < column.count && i < places.length; i++) {
-                int first = column.firstLike(i);
-                if (!column.isThere(i)) {
-                    places[i] = 0;
-                } else if (first >= 0 && first < i) {
+                places[i] = 0;
+                int first = column.isThere(i) ? column.firstLike(i) : -1;
+                if (first >= 0 && first < i) {
                     places[i] = places[first];
-                } else if (chosenCount >= 0 && chosenCount < chosen.length) {
+                } else if (first == i && chosenCount >= 0 && chosenCount < chosen.length) {
                     chosen[chosenCount] = i;
                     places[i] = chosenCount;
                     chosenCount++;
