@@ -140,6 +140,10 @@ public final class ColumnsTest {
         due("absent", x.told(0, 3), 1);
         x.repeat(0, 2, 100);
         due("full", x.addNone(0), FULL);
+        x.repeat(0, 0, 1);
+        x.addNone(0);
+        due("where a value was", x.has(0, 0), 0);
+        due("where a value was", x.value(0, 0), 0);
         x.column(1, INT, false);
         x.add(1, 1);
         x.repeat(1, 1, 200);
@@ -246,6 +250,8 @@ public final class ColumnsTest {
         due("no text", x.letter(1, 0, 0), BAD);
         due("column -1", x.letter(-1, 0, 0), BAD);
         due("column 4", x.letter(4, 0, 0), BAD);
+        x.repeat(0, 0, 1);
+        due("a text that went", x.letter(0, 0, 0), BAD);
     }
 
     private static void alike() {

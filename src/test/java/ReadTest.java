@@ -259,6 +259,7 @@ public final class ReadTest {
         CHECK.due("value", x.value(0, 4), 0);
         CHECK.due("value", x.value(0, 10), 1);
         fault(TRUTH, false, page(12, 3, "08 00 00 00 02 01 04 00 07 81 01 01 00"), 3, 21);
+        fault(TRUTH, false, page(12, 3, "05 00 00 00 10 01 05 01 01"), 3, 19);
         fault(TRUTH, false, page(3, 3, "0b 00 00 00 fe ff ff ff ff ff ff ff ff 01 01"), 3, 17);
         fault(TRUTH, false, page(3, 3, "0b 00 00 00 ff ff ff ff ff ff ff ff ff 01 01"), 3, 17);
         fault(TRUTH, false, page(3, 3, "0a 00 00 00 ff ff ff ff ff ff ff ff ff 02"), 2, 26);
@@ -438,7 +439,11 @@ public final class ReadTest {
         CHECK.sound(of(INT, false, FIVE_SEVEN), 0, 0, 1, 2);
         CHECK.fault(of(INT, false, "15 04 15 0e 15 0e 4c 15 04 15 00 00 00 05 00 00 00 07 00 00"), 0, 1, 20, 0, 0);
         CHECK.fault(of(INT, false, "15 04 15 12 15 12 4c 15 04 15 00 00 00 05 00 00 00 07 00 00 00 09"), 0, 13, 21, 0, 2);
-        ColumnPages x = of(TEXT, true, "15 04 15 14 15 14 4c 15 04 15 00 00 00 01 00 00 00 61 01 00 00 00 62 "
+        ColumnPages x = of(INT, false, FIVE_SEVEN);
+        CHECK.sound(x, 0, 0, 1, 2);
+        Check.file(x, page(1, 8, "00 02"));
+        CHECK.fault(x, 0, 8, 10, 0, 0);
+        x = of(TEXT, true, "15 04 15 14 15 14 4c 15 04 15 00 00 00 01 00 00 00 61 01 00 00 00 62 "
             + page(3, 8, "02 00 00 00 03 05 01 03 01"));
         CHECK.sound(x, 0, 3, 2, 2);
         CHECK.due("letter", x.letter(0, 0, 0), 'b');

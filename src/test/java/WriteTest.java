@@ -133,6 +133,8 @@ public final class WriteTest {
             "15 04 15 1c 15 1c 4c 15 06 15 00 00 00 | 01 00 00 00 62 01 00 00 00 61 00 00 00 00 "
             + "15 00 15 08 15 08 2c 15 06 15 10 00 00 | 02 03 04 00 "
             + "15 00 15 08 15 08 2c 15 04 15 10 00 00 | 02 03 06 00");
+        wrote(of(INT, false, 6), 0, DICTIONARY, 200, "15 04 15 08 15 08 4c 15 02 15 00 00 00 | 06 00 00 00 "
+            + "15 00 15 04 15 04 2c 15 02 15 10 00 00 | 00 03");
         ColumnPages x = of(INT, true);
         x.addNone(0);
         x.addNone(0);
@@ -197,6 +199,9 @@ public final class WriteTest {
     private static void differencesOfInts() {
         wrote(of(INT, false, 7, 5, 3, 1, 2, 3, 4, 5), 0, PACKED, 200,
             "15 00 15 24 15 24 2c 15 10 15 0a 00 00 | 80 01 04 08 0e | 03 02 00 00 00 | c0 3f 00 00 00 00 00 00");
+        wrote(of(INT, false, 1, 4, 3, 5), 0, PACKED, 200,
+            "15 00 15 2c 15 2c 2c 15 08 15 0a 00 00 | 80 01 04 04 02 | 01 03 00 00 00 | c4 00 00 00 00 00 00 00 "
+            + "00 00 00 00");
         wrote(of(INT, false, -3), 0, PACKED, 200, "15 00 15 0a 15 0a 2c 15 02 15 0a 00 00 | 80 01 04 01 05");
         ColumnPages x = of(INT, true);
         x.addNone(0);
