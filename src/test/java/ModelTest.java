@@ -4,11 +4,14 @@ import java.util.Arrays;
 import java.util.List;
 import java.util.Random;
 
-/** Long runs of calls, answered by the program and by the model; the seeds are fixed. */
+/** Runs of at most 512 calls, answered by the program and by the model; the seeds are fixed. */
 public final class ModelTest {
     private static final Check CHECK = new Check();
+    private static final int MOST_CALLS = 512;
     private static final long[] NUMBERS = {0, 1, -1, 2, 5, 127, 128, 255, 256, 65535, Integer.MAX_VALUE,
         Integer.MIN_VALUE, 1L << 32, 0x180000000L, Long.MAX_VALUE, Long.MIN_VALUE, Long.MIN_VALUE + 1};
+    private static final int[] STRANGE = {Integer.MIN_VALUE, Integer.MAX_VALUE, -1, 4, 5, 9, 40, 41, 199, 200, 201, 11999, 12000,
+        12001, 1 << 30, -1 << 30};
     private static final int[] FAULTS = new int[14];
 
     private final Random random;
@@ -17,41 +20,56 @@ public final class ModelTest {
     private final Model model = new Model();
     private int calls = 0;
 
+    /** The run has made all the calls that the document tells of. */
+    private static final class RunEnds extends RuntimeException {
+        private static final long serialVersionUID = 1;
+    }
+
     private ModelTest(int run) {
         this.run = run;
         random = new Random(run);
     }
 
     public static void main(String[] args) {
-        int runs = args.length > 0 ? Integer.parseInt(args[0]) : 6000;
+        int runs = args.length > 0 ? Integer.parseInt(args[0]) : 16000;
         for (int run = 0; run < runs; run++) {
             ModelTest test = new ModelTest(run);
             try {
-                switch (run % 4) {
-                    case 0:
-                        test.anyCalls();
-                        break;
-                    case 1:
-                        test.pagesAndChanges();
-                        break;
-                    default:
-                        test.builtPages();
-                        break;
-                }
+                test.play();
+            } catch (RunEnds e) {
+                continue;
             } catch (RuntimeException e) {
                 e.printStackTrace(System.out);
                 CHECK.due("run " + run + " throws", 1, 0);
             }
         }
         for (int fault = 0; fault < 14; fault++) {
-            CHECK.due("fault " + fault + " was met often", FAULTS[fault] > 20 || runs < 6000 ? 1 : 0, 1);
+            CHECK.due("fault " + fault + " was met often", FAULTS[fault] > 20 || runs < 16000 ? 1 : 0, 1);
         }
         System.out.println("ModelTest: reads with fault 0 to 13: " + Arrays.toString(FAULTS));
         CHECK.end("ModelTest");
     }
 
+    private void play() {
+        switch (run % 4) {
+            case 0:
+                anyCalls();
+                break;
+            case 1:
+                pagesAndChanges();
+                break;
+            default:
+                builtPages();
+                break;
+        }
+    }
+
+    /** The answer of a call that is one too many does not count. */
     private void due(String call, long got, long want) {
         calls++;
+        if (calls > MOST_CALLS) {
+            throw new RunEnds();
+        }
         CHECK.due(got == want ? "" : "run " + run + " call " + calls + ": " + call, got, want);
     }
 
@@ -63,8 +81,13 @@ public final class ModelTest {
         return random.nextInt(n) == 0;
     }
 
+    /** A number, or seldom one that no call, or hardly one, takes. */
+    private int orStrange(int n) {
+        return seldom(40) ? STRANGE[below(STRANGE.length)] : n;
+    }
+
     private int place() {
-        return seldom(30) ? below(8) - 3 : below(4);
+        return orStrange(below(4));
     }
 
     private long number() {
@@ -98,7 +121,7 @@ public final class ModelTest {
     private void text(int c) {
         for (int i = below(3); i > 0; i--) {
             long w = seldom(2) ? random.nextLong() : 0x6161;
-            int n = seldom(30) ? below(12) - 1 : 1 + below(8);
+            int n = orStrange(1 + below(8));
             due("type(" + w + ", " + n + ")", x.type(w, n), model.type(w, n));
         }
         due("addText(" + c + ")", x.addText(c), model.addText(c));
@@ -120,53 +143,69 @@ public final class ModelTest {
         due("cut(" + n + ")", x.cut(n), model.cut(n));
     }
 
+    private void alike(int c, int d) {
+        due("alike(" + c + ", " + d + ")", x.alike(c, d), model.alike(c, d));
+    }
+
+    private void told(int c, int what) {
+        due("told(" + c + ", " + what + ")", x.told(c, what), model.told(c, what));
+    }
+
     private void write(int c, int way, int q, boolean behind) {
         due("write(" + c + ", " + way + ", " + q + ", " + behind + ")", x.write(c, way, q, behind),
             model.write(c, way, q, behind));
-        sameFile();
+        sameBytes(30);
     }
 
     private void read(int c) {
         due("read(" + c + ")", x.read(c), model.read(c));
-        for (int what = -1; what < 5; what++) {
-            due("read(" + c + ") fault(" + what + ")", x.fault(what), model.fault(what));
+        for (int what = 0; what < 4; what++) {
+            due("fault(" + what + ")", x.fault(what), model.fault(what));
         }
         FAULTS[model.fault(0)]++;
-        sameColumn(c);
+        if (model.fault(0) == 0 || seldom(9)) {
+            sameColumn(c, 8);
+        }
     }
 
-    private void sameFile() {
+    /** Some bytes of the file, most often all of a short one. */
+    private void sameBytes(int many) {
         due("size", x.size(), model.size());
-        for (int i = -1; i <= model.size(); i++) {
+        int size = model.size();
+        int from = size <= many || seldom(2) ? 0 : below(size - many + 1);
+        for (int i = from; i < from + many && i < size; i++) {
             due("byteAt(" + i + ")", x.byteAt(i), model.byteAt(i));
         }
+        int i = orStrange(size);
+        due("byteAt(" + i + ")", x.byteAt(i), model.byteAt(i));
     }
 
-    private void sameColumn(int c) {
-        for (int what = -1; what < 6; what++) {
-            due("told(" + c + ", " + what + ")", x.told(c, what), model.told(c, what));
+    /** What is told of a column, and some of its values. */
+    private void sameColumn(int c, int many) {
+        for (int what = 0; what < 5; what++) {
+            told(c, what);
         }
-        for (int i = -1; i < 202; i++) {
+        int count = Math.max(0, model.told(c, 2));
+        for (int t = 0; t < many; t++) {
+            int i = orStrange(count <= many ? t : below(count));
             due("has(" + c + ", " + i + ")", x.has(c, i), model.has(c, i));
             due("value(" + c + ", " + i + ")", x.value(c, i), model.value(c, i));
-            for (int k = -1; k <= Math.min(41, model.value(c, i)); k++) {
-                due("letter(" + c + ", " + i + ", " + k + ")", x.letter(c, i, k), model.letter(c, i, k));
-            }
+            int k = orStrange(below(1 + (int) Math.max(0, Math.min(40, model.value(c, i)))));
+            due("letter(" + c + ", " + i + ", " + k + ")", x.letter(c, i, k), model.letter(c, i, k));
         }
-        int d = place();
-        due("alike(" + c + ", " + d + ")", x.alike(c, d), model.alike(c, d));
+        alike(c, place());
     }
 
     // ---- kinds of runs
 
-    private void fillColumn(int c) {
-        int many = seldom(3) ? below(202) : below(20);
+    private void fillColumn(int c, int most) {
+        int many = seldom(3) ? below(most) : below(20);
         boolean near = seldom(2);
         long last = number();
         for (int i = 0; i < many; i++) {
             if (seldom(seldom(2) ? 2 : 9)) {
                 addNone(c);
-            } else if (x.told(c, 0) == 2) {
+            } else if (model.told(c, 0) == 2) {
                 text(c);
             } else {
                 last = seldom(3) ? last : near ? last + below(9) - 4 : number();
@@ -174,17 +213,17 @@ public final class ModelTest {
             }
         }
         if (seldom(3)) {
-            int k = below(x.told(c, 2) + 1);
+            int k = below(Math.max(0, model.told(c, 2)) + 1);
             repeat(c, k, 1 + below(k == 0 ? 200 : Math.max(1, 220 / k)));
         }
     }
 
     private void anyCalls() {
-        for (int i = 0; i < 60; i++) {
+        for (int i = 0; i < MOST_CALLS; i++) {
             int c = place();
-            switch (below(12)) {
+            switch (below(13)) {
                 case 0:
-                    column(c, seldom(9) ? below(8) - 2 : below(4), seldom(2));
+                    column(c, orStrange(below(4)), seldom(2));
                     break;
                 case 1:
                     add(c, number());
@@ -196,78 +235,57 @@ public final class ModelTest {
                     addNone(c);
                     break;
                 case 4:
-                    repeat(c, below(12) - 1, seldom(9) ? below(220) - 9 : below(9));
+                    repeat(c, orStrange(below(12)), orStrange(below(9)));
                     break;
                 case 5:
-                    write(c, seldom(9) ? below(7) - 2 : below(3), seldom(2) ? below(12) - 1 : below(220) - 9, seldom(2));
+                    write(c, orStrange(below(3)), orStrange(seldom(2) ? below(12) : below(202)), seldom(2));
                     break;
                 case 6:
                     read(c);
                     break;
                 case 7:
-                    put(number(), seldom(9) ? below(12) - 1 : 1 + below(8));
+                    put(number(), orStrange(1 + below(8)));
                     break;
                 case 8:
-                    poke(below(60) - 2, seldom(2) ? 1 << below(9) : random.nextInt());
+                    poke(orStrange(below(60)), seldom(2) ? 1 << below(9) : random.nextInt());
                     break;
                 case 9:
-                    cut(seldom(2) ? x.size() - below(4) : below(200) - 2);
+                    cut(orStrange(seldom(2) ? model.size() - below(4) : below(200)));
                     break;
                 case 10:
-                    due("alike", x.alike(c, i % 4), model.alike(c, i % 4));
+                    alike(c, place());
+                    break;
+                case 11:
+                    sameColumn(c, 4);
                     break;
                 default:
-                    if (c >= 0 && c < 4) {
-                        fillColumn(c);
-                        sameColumn(c);
-                    }
+                    fillColumn(c, 40);
                     break;
             }
-        }
-        sameFile();
-        for (int c = -1; c < 5; c++) {
-            sameColumn(c);
         }
     }
 
     /** A column is written, its file is changed in a place or two, and read in many ways. */
     private void pagesAndChanges() {
         column(0, below(4), seldom(2));
-        fillColumn(0);
-        column(1, x.told(0, 0), x.told(0, 1) == 1);
-        for (int way = 0; way < 3; way++) {
-            write(0, way, seldom(3) ? 200 : 1 + below(200), false);
+        fillColumn(0, seldom(2) ? 200 : 80);
+        column(1, model.told(0, 0), model.told(0, 1) == 1);
+        for (int round = 0; round < MOST_CALLS; round++) {
+            write(0, below(3), seldom(3) ? 200 : 1 + below(200), seldom(9));
             read(1);
-            due("alike", x.alike(0, 1), model.alike(0, 1));
-            for (int i = 0; i < 40 && x.size() > 0; i++) {
-                int at = below(seldom(2) ? x.size() : Math.min(x.size(), 60));
+            alike(0, 1);
+            for (int i = 0; i < 12 && model.size() > 0; i++) {
+                int at = below(seldom(2) ? model.size() : Math.min(model.size(), 60));
                 int mask = seldom(2) ? 1 << below(8) : 1 + below(255);
                 poke(at, mask);
                 read(1);
                 poke(at, mask);
             }
-            cut(x.size() - Math.min(x.size(), below(9)));
+            cut(model.size() - Math.min(model.size(), below(9)));
             read(1);
             column(2, below(4), seldom(2));
             read(2);
         }
-    }
-
-    private void var(long v) {
-        long rest = v;
-        while ((rest & ~127L) != 0) {
-            put(rest & 127 | 128, 1);
-            rest >>>= 7;
-        }
-        if (seldom(25)) {
-            put(rest | 128, 1);
-            rest = 0;
-        }
-        put(rest, 1);
-    }
-
-    private void zig(long v) {
-        var(v << 1 ^ v >> 63);
     }
 
     /** Pages that are nearly right, built from parts that write() does not make. */
@@ -293,43 +311,42 @@ public final class ModelTest {
             headed(seldom(60) ? 2 : 0, m, code, body);
         }
         if (seldom(4)) {
-            poke(below(x.size()), 1 << below(8));
+            poke(below(model.size()), 1 << below(8));
         }
         if (seldom(9)) {
-            cut(below(x.size()));
+            cut(below(model.size()));
         }
         read(0);
-        boolean sound = model.fault(0) == 0;
-        for (int i = 0; i < 12; i++) {
-            int at = below(Math.max(1, x.size()));
+        if (model.fault(0) == 0 && seldom(2)) {
+            write(0, below(3), 1 + below(200), true);
+            read(0);
+        }
+        for (int i = 0; i < MOST_CALLS; i++) {
+            int at = below(Math.max(1, model.size()));
             int mask = 1 << below(8);
             poke(at, mask);
             read(0);
             poke(at, mask);
         }
-        if (sound) {
-            read(0);
-            write(0, below(3), 1 + below(200), true);
-            read(0);
-        }
     }
 
     private void headed(int what, int many, int code, Body body) {
         int length = body.bytes.size();
-        put(0x15, 1);
-        zig(what);
-        put(0x15, 1);
-        zig(length);
-        put(0x15, 1);
-        zig(seldom(200) ? length + 1 : length);
-        put(what == 2 ? 0x4C : 0x2C, 1);
-        put(0x15, 1);
-        zig(seldom(200) ? number() : many);
-        put(0x15, 1);
-        zig(seldom(200) ? number() : code);
-        put(0, 2);
-        for (int b : body.bytes) {
-            put(b, 1);
+        Body page = new Body();
+        page.raw(0x15, 1).zig(what).raw(0x15, 1).zig(length);
+        page.raw(0x15, 1).zig(seldom(200) ? length + 1 : length);
+        page.raw(what == 2 ? 0x4C : 0x2C, 1);
+        page.raw(0x15, 1).zig(seldom(200) ? number() : many);
+        page.raw(0x15, 1).zig(seldom(200) ? number() : code);
+        page.raw(0, 2);
+        page.bytes.addAll(body.bytes);
+        for (int from = 0; from < page.bytes.size(); from += 8) {
+            int to = Math.min(from + 8, page.bytes.size());
+            long w = 0;
+            for (int i = from; i < to; i++) {
+                w |= (long) page.bytes.get(i) << 8 * (i - from);
+            }
+            put(w, to - from);
         }
     }
 
