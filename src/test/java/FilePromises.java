@@ -52,6 +52,12 @@ final class FilePromises extends Part {
             is(x.write(c, PLAIN, 1, false), 0);
             is(x.size(), 0);
         }
+        // behind another page a dictionary may stand, but not be read
+        numbers(INT, false, 6);
+        x.write(0, PLAIN, 1, false);
+        is(x.write(0, DICTIONARY, 1, true), 17 + 17 + 15);
+        is(x.read(0), -19);
+        is(x.fault(1), 17);
         // a shorter file in place of a longer one
         numbers(INT, false, 1, 2, 3);
         is(x.write(0, PLAIN, 1, false), 51);

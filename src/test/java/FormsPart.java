@@ -418,6 +418,13 @@ final class FormsPart extends Part {
     private void groupsUpToAlikeOnes() {
         // alike ones that begin elsewhere than a whole number of groups further on
         runsOf("011111111", "05 fe 01");
+        runsOf("101111111", "05 fd 01");
+        runsOf("1011111111", "05 fd 03");
+        runsOf("1101111111", "05 fb 03");
+        runsOf("1111111011", "05 7f 03");
+        runsOf("11111110", "03 7f");
+        runsOf("1010101011111111111111111", "03 55 22 01");
+        runsOf("10101010" + "1011111111", "07 55 fd 03");
         runsOf("0111111111111111", "03 fe 10 01");
         runsOf("011111111111111", "05 fe 7f");
         runsOf("0000000111111111", "03 80 10 01");
@@ -476,6 +483,17 @@ final class FormsPart extends Part {
             fault(kind, false, Hex.page(0, code, "80 01 04 00"), 1, 17);
             fault(kind, false, Hex.page(0, code, "80 01 04 00 00 00"), 13, 18);
             fault(kind, false, Hex.page(0, code, "80 01 04 01 00"), 5, 13);
+            // behind a page that has numbers
+            numbers(kind, true, 5);
+            x.text(0, kind == TEXT ? "a" : "");
+            x.addNone(0);
+            x.addNone(0);
+            String first = kind == TEXT ? "02 | 61" : "0a";
+            written(PACKED, 1, Hex.page(1, code, "02 00 00 00 03 01 | 80 01 04 01 " + first)
+                + Hex.repeated(Hex.page(1, code, "02 00 00 00 03 00 | 80 01 04 00 00"), 2));
+            x.column(1, kind, true);
+            is(x.read(1), 3);
+            is(x.alike(0, 1), 1);
         }
     }
 
