@@ -2,9 +2,10 @@ import java.io.IOException;
 import java.nio.file.Files;
 import java.nio.file.Path;
 import java.util.LinkedHashMap;
+import java.util.List;
 import java.util.Map;
 
-/** The text of ../shared/DOC.md by its headings, and which of its words a test has quoted. */
+/** The text of ../shared/DOC.md by its headings, and which of its words a test has quoted; nothing, if it is not there. */
 final class Document {
     /** What the class is, and how its face is ordered. */
     private static final String NO_BOUNDARIES = "Columns of values .* its place\\.|Ahead of the calls .* the file\\.";
@@ -14,7 +15,7 @@ final class Document {
 
     Document(Path path) throws IOException {
         StringBuilder part = new StringBuilder();
-        for (String line : Files.readAllLines(path)) {
+        for (String line : Files.exists(path) ? Files.readAllLines(path) : List.of("")) {
             if (line.startsWith("## ")) {
                 part = new StringBuilder();
                 parts.put(line.substring(3).replaceAll(":.*", ""), part);
@@ -27,6 +28,9 @@ final class Document {
     /** A quoted word is overwritten by signs '~': what is left was not quoted. */
     void quote(String partName, String words) {
         String heading = partName.startsWith("Promise") ? partName : partName.startsWith("Terms") ? "Terms" : partName;
+        if (parts.isEmpty()) {
+            return;
+        }
         StringBuilder part = parts.get(heading);
         int at = part == null ? -1 : part.indexOf(words);
         if (part != null && at >= 0) {

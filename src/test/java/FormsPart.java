@@ -579,6 +579,17 @@ final class FormsPart extends Part {
         writtenBody(PACKED, 2, 5, LEAD + "02 ff ff ff ff 0f fe ff ff ff 1f 00 00 00 00");
         for (int kind = INT; kind <= LONG; kind++) {
             long smallest = kind == INT ? SMALLEST : Long.MIN_VALUE;
+            String greatest = Hex.zig(-smallest - 1);
+            sound(kind, false, Hex.page(2, 5, LEAD + "02 " + greatest + "02 00 00 00 00"), 2);
+            hasNumbers(0, -smallest - 1, smallest);
+            sound(kind, false, Hex.page(2, 5, LEAD + "02 01 " + Hex.zig(smallest) + "00 00 00 00"), 2);
+            hasNumbers(0, -1, -smallest - 1);
+            sound(kind, false, Hex.page(3, 5, LEAD + "03 00 " + greatest + "01 00 00 00 03 00 00 00"), 3);
+            hasNumbers(0, 0, smallest, 0);
+            int width = kind == INT ? 32 : 64;
+            sound(kind, false, Hex.page(3, 5, LEAD + "03 02 02 " + Hex.byteOf(width) + " 00 00 00 "
+                + Hex.packed(width, 32, -1, smallest)), 3);
+            hasNumbers(0, 1, 1, smallest + 2);
             numbers(kind, false, smallest, -smallest - 1, 0, smallest, -1, 1, -smallest - 1, smallest);
             x.write(0, PACKED, 200, false);
             x.column(1, kind, false);
