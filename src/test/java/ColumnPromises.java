@@ -600,6 +600,18 @@ final class ColumnPromises extends Part {
         x.repeat(1, 1, 1);
         x.addNone(1);
         is(x.alike(0, 1), 0);
+        // values that went do not count
+        numbers(INT, true, 5, 6);
+        x.repeat(0, 1, 1);
+        x.column(1, INT, true);
+        x.add(1, 5);
+        x.addNone(1);
+        x.repeat(1, 1, 1);
+        is(x.alike(0, 1), 1);
+        is(x.alike(1, 0), 1);
+        is(x.told(0, 3), 0);
+        is(x.told(1, 3), 0);
+        is(x.told(0, 4), 1);
         // absent is not 0
         numbers(LONG, true, 0);
         x.column(1, LONG, true);

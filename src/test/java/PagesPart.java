@@ -348,6 +348,22 @@ final class PagesPart extends Part {
         written(DICTIONARY, 2, Hex.dictionary(3, "07 00 00 00 05 00 00 00 09 00 00 00")
             + Hex.page(2, 8, "02 03 04 00") + Hex.page(2, 8, "02 03 08 00") + Hex.page(1, 8, "02 03 01 00"));
         is(x.write(0, DICTIONARY, 200, false), 13 + 12 + 13 + 4);
+        // values that went are in no page
+        for (int way = PLAIN; way <= PACKED; way++) {
+            numbers(INT, true, 7, 5, 9, 8);
+            x.write(0, way, 1, false);
+            x.repeat(0, 2, 1);
+            x.column(1, INT, true);
+            x.add(1, 7);
+            x.add(1, 5);
+            x.write(1, way, 200, false);
+            String due = x.hex();
+            x.write(0, way, 200, false);
+            is(x.hex(), due);
+        }
+        numbers(INT, false, 7, 5, 9);
+        x.repeat(0, 2, 1);
+        written(DICTIONARY, 200, Hex.dictionary(2, "07 00 00 00 05 00 00 00") + Hex.page(2, 8, "01 03 02"));
         numbers(LONG, false, 1L << 32, 0, -1L << 63);
         written(DICTIONARY, 200, Hex.dictionary(3, "00 00 00 00 01 00 00 00 | 00 00 00 00 00 00 00 00 | 00 00 00 00 00 00 00 80")
             + Hex.page(3, 8, "02 03 24 00"));
