@@ -1,3 +1,5 @@
+import java.util.Arrays;
+
 /** "Terms", 2 FORMS OF NUMBERS: VAR, ZIG, RUNS, DIFFERENCES, written and read. */
 final class FormsPart extends Part {
     private static final String LEAD = "80 01 04 ";
@@ -353,7 +355,11 @@ final class FormsPart extends Part {
             int bytes = (width + 7) / 8;
             long beyond = 1L << width;
             String lead = Hex.byteOf(width) + " 06 ";
-            faultOfPlaces(3, lead + little(beyond - 1, bytes), width == 1 ? 13 : 12, width == 1 ? 37 : 35, width == 1);
+            if (width == 1) {
+                soundPlaces(lead + little(beyond - 1, bytes), 7, 7, 7);
+            } else {
+                faultOfPlaces(3, lead + little(beyond - 1, bytes), 12, 35);
+            }
             if (width % 8 != 0) {
                 faultOfPlaces(3, lead + little(beyond, bytes), 4, 36);
                 faultOfPlaces(3, lead + little(1L << 8 * bytes - 1, bytes), 4, 36);
@@ -361,11 +367,6 @@ final class FormsPart extends Part {
             }
         }
         soundPlaces("01 06 01", 7, 7, 7);
-    }
-
-    /** The number 1 of one bit is a place that there is. */
-    private void faultOfPlaces(int many, String widthAndRuns, int fault, int place, boolean isThere) {
-        faultOfPlaces(many, widthAndRuns + (isThere ? "00" : ""), fault, place);
     }
 
     private static String little(long v, int bytes) {
@@ -661,7 +662,7 @@ final class FormsPart extends Part {
             }
             StringBuilder parts = new StringBuilder();
             for (int part = 0; part < 4; part++) {
-                parts.append(Hex.packed(part + 1, 32, java.util.Arrays.copyOfRange(rest, 32 * part, 32 * part + 32)));
+                parts.append(Hex.packed(part + 1, 32, Arrays.copyOfRange(rest, 32 * part, 32 * part + 32)));
             }
             writtenBody(PACKED, 129, 5, LEAD + "81 01 00 13 01 02 03 04 " + parts);
             x.column(1, kind, false);

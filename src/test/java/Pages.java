@@ -144,7 +144,7 @@ final class Pages {
 
     // ---- what tests say often
 
-    /** Text of so many letters or less, eight a call; null: an absent value. */
+    /** A text more, typed eight letters a call; null: an absent value. */
     void text(int c, String letters) {
         if (letters == null) {
             addNone(c);
